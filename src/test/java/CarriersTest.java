@@ -14,7 +14,10 @@ public final class CarriersTest {
         newObject();
         objectsApart();
         carrierEdges();
+        everyPlaceCount();
+        everyKind();
         carrierRefusals();
+        serialHadInEachState();
         carrierLimit();
         stateOfNone();
         eventWays();
@@ -22,7 +25,9 @@ public final class CarriersTest {
         latestPerson();
         lostFromEachState();
         toldInOrder();
+        toldSkipsTheRefused();
         differentStates();
+        oneOfEachStateAlone();
         Due.end();
     }
 
@@ -69,6 +74,40 @@ public final class CarriersTest {
         Due.none("2: no 65th place", x.byteAt(1, 64));
         Due.is("2: state(1)", x.state(1), Made.TAKEN_IN);
         Due.none("2: no fail at first", x.failed(1, 0));
+    }
+
+    private static void everyPlaceCount() {
+        for (int places = 1; places <= 64; places++) {
+            WipePapers x = new WipePapers();
+            Due.is("2: " + places + " places", x.carrier(0, places, places), 0);
+            for (int i = 0; i < places; i++) {
+                Due.is("2: place " + i + " of " + places, x.byteAt(0, i), 0);
+            }
+            Due.none("2: behind the last of " + places, x.byteAt(0, places));
+            Due.none("2: before the first of " + places, x.byteAt(0, -1));
+        }
+    }
+
+    private static void everyKind() {
+        WipePapers x = new WipePapers();
+        for (int kind = 0; kind <= 3; kind++) {
+            Due.is("2: kind " + kind, x.carrier(kind, kind, 1), kind);
+            Due.is("2: is taken in", x.state(kind), Made.TAKEN_IN);
+            x.event(kind, 2, 0);
+            x.shred(kind, 1);
+            x.paper(kind, 0, 1);
+            Due.is("2: it has its kind", x.at(kind, 1), kind);
+        }
+    }
+
+    private static void serialHadInEachState() {
+        for (int state = 0; state <= 6; state++) {
+            WipePapers x = Made.inState(state, 1, 2);
+            Due.none("2: one in state " + state + " has the serial", x.carrier(0, 7L, 1));
+            Due.is("2: the next serial is free", x.carrier(0, 8L, 1), 1);
+            Due.none("2: now it is had", x.carrier(0, 8L, 1));
+            Due.is("2: the one before is free", x.carrier(0, 6L, 1), 2);
+        }
     }
 
     private static void carrierRefusals() {
@@ -200,6 +239,28 @@ public final class CarriersTest {
         Due.none("22: told(10)", x.told(10));
         for (int far : Made.FAR_OFF) {
             Due.none("22: told(" + far + ")", x.told(far));
+        }
+    }
+
+    private static void toldSkipsTheRefused() {
+        WipePapers x = new WipePapers();
+        for (int i = 0; i < 3; i++) {
+            x.carrier(0, i, 1);
+        }
+        x.event(1, 2, 0);
+        x.shred(1, 1);
+        Due.is("21: the first", x.lost(2), 1);
+        Due.none("21: again", x.lost(2));
+        Due.none("21: a shredded one", x.lost(1));
+        Due.is("21: the second", x.lost(0), 2);
+        Due.is("22: told(0)", x.told(0), 2);
+        Due.is("22: told(1)", x.told(1), 0);
+        Due.none("22: told(2)", x.told(2));
+    }
+
+    private static void oneOfEachStateAlone() {
+        for (int state = 0; state <= 6; state++) {
+            Due.is("23: one in state " + state, Made.inState(state, 1, 2).states(), 1);
         }
     }
 

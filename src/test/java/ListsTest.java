@@ -5,6 +5,8 @@ public final class ListsTest {
         listedLimit();
         comparedBothWays();
         followsBothSides();
+        bothFull();
+        refusedOnesAreNotCounted();
         lostOnesHaveTheirs();
         Due.end();
     }
@@ -75,6 +77,37 @@ public final class ListsTest {
         Due.none("19: none is missing", x.missing(0));
         x.listed(11L);
         Due.is("19: 11 is missing", x.missing(0), 1);
+    }
+
+    /** Carriers have the serials 0 .. 9, the list 19 .. 0; then no carrier is extra, and no more comes in. */
+    private static void bothFull() {
+        WipePapers x = new WipePapers();
+        for (int i = 0; i < 20; i++) {
+            x.listed(19 - i);
+        }
+        for (int i = 0; i < 10; i++) {
+            Due.is("19: with " + i + " carriers, the last missing one", x.missing(19 - i), 19 - i);
+            Due.none("19: behind it", x.missing(20 - i));
+            x.carrier(0, i, 1);
+            Due.none("20: carrier " + i + " is listed", x.extra(0));
+        }
+        for (int k = 0; k < 10; k++) {
+            Due.is("19: missing(" + k + ")", x.missing(k), k);
+        }
+        Due.none("19: missing(10)", x.missing(10));
+        x.carrier(0, 19L, 1);
+        Due.is("19: an 11th carrier has no serial", x.missing(0), 0);
+    }
+
+    private static void refusedOnesAreNotCounted() {
+        WipePapers x = new WipePapers();
+        Due.is("18: the first", x.listed(4L), 1);
+        Due.none("18: there already", x.listed(4L));
+        Due.none("18: not such", x.listed(-4L));
+        Due.is("18: the second", x.listed(3L), 2);
+        Due.none("2: a refused carrier", x.carrier(4, 3L, 1));
+        Due.is("19: it has no serial", x.missing(1), 1);
+        Due.none("20: and is not extra", x.extra(0));
     }
 
     private static void lostOnesHaveTheirs() {

@@ -6,14 +6,19 @@ public final class PapersTest {
 
     public static void main(String[] args) {
         shredSizes();
+        shredCleanOnes();
         shredInEachState();
         shredRefusals();
         paperInEachState();
         paperRefusals();
+        everyTwoPersons();
         paperLimit();
+        papersOfTenCarriers();
         fieldsOfPasses();
         fieldsAsMade();
         marks();
+        marksOfEveryLength();
+        everyBitCounts();
         knownMark();
         Due.end();
     }
@@ -28,6 +33,18 @@ public final class PapersTest {
                 Due.is(call, x.shred(0, size) ? 1 : 0, fine ? 1 : 0);
                 Due.is(call + ", then state", x.state(0), fine ? Made.SHREDDED : Made.BROKEN);
             }
+        }
+    }
+
+    private static void shredCleanOnes() {
+        int[] most = {2, 8, 14, 20};
+        for (int kind = 0; kind <= 3; kind++) {
+            WipePapers x = Made.inState(Made.CLEAN, kind, 1);
+            Due.no("13: kind " + kind + ", greater by one", x.shred(0, most[kind] + 1));
+            Due.is("13: still clean", x.state(0), Made.CLEAN);
+            Due.yes("13: kind " + kind + ", the greatest", x.shred(0, most[kind]));
+            Due.no("13: shredded already", x.shred(0, most[kind]));
+            Due.is("13: shredded", x.state(0), Made.SHREDDED);
         }
     }
 
@@ -78,6 +95,39 @@ public final class PapersTest {
         Due.is("14: persons 9 and 0", x.paper(0, 9, 0), 1);
         Due.is("14: first of paper 1", x.at(1, 2), 9);
         Due.is("14: second of paper 1", x.at(1, 3), 0);
+    }
+
+    private static void everyTwoPersons() {
+        for (int a = 0; a <= 9; a++) {
+            WipePapers x = Made.inState(Made.CLEAN, 0, 1);
+            int papers = 0;
+            for (int b = 0; b <= 9; b++) {
+                Due.is("14: persons " + a + " and " + b, x.paper(0, a, b), a == b ? WipePapers.NONE : papers);
+                if (a != b) {
+                    Due.is("15: the first person", x.at(papers, 2), a);
+                    Due.is("15: the second person", x.at(papers, 3), b);
+                    papers++;
+                }
+            }
+        }
+    }
+
+    private static void papersOfTenCarriers() {
+        WipePapers x = new WipePapers();
+        for (int c = 0; c < 10; c++) {
+            x.carrier(c % 4, c, 1);
+            x.event(c, 2, 0);
+            x.shred(c, 2);
+        }
+        for (int p = 0; p < 20; p++) {
+            Due.is("14: paper " + p, x.paper(9 - p % 10, 4, 5), p);
+            Due.none("14: refused ones are not numbered", x.paper(9 - p % 10, 4, 4));
+        }
+        for (int p = 0; p < 20; p++) {
+            Due.is("15: the carrier of paper " + p, x.at(p, 0), 9 - p % 10);
+            Due.is("15: its kind", x.at(p, 1), (9 - p % 10) % 4);
+        }
+        Due.none("14: a 21st", x.paper(0, 4, 5));
     }
 
     private static void paperLimit() {
@@ -178,6 +228,35 @@ public final class PapersTest {
             Due.none("16: byte " + far, x.mark(0, 1L, far));
             Due.none("16: paper " + far, x.mark(far, 1L, 0));
             Due.no("17: paper " + far, x.check(far, 1L, 1L));
+        }
+    }
+
+    /** Papers of 0 to 6 passes, and keys by which the sums wrap. */
+    private static void marksOfEveryLength() {
+        for (int passes = 0; passes <= 6; passes++) {
+            WipePapers x = Made.inState(Made.WIPING, 3, 1);
+            for (int i = 0; i < passes; i++) {
+                x.pass(0, 252 + i);
+            }
+            x.event(0, 2, 1);
+            x.shred(0, 20);
+            x.paper(0, 8, 7);
+            Due.is("15: passes", x.at(0, 5), passes);
+            for (long key : KEYS) {
+                String call = "17: check(0, " + key + ") with " + passes + " passes";
+                Due.yes(call, x.check(0, key, markOf(x, 0, key)));
+            }
+        }
+    }
+
+    private static void everyBitCounts() {
+        WipePapers x = Made.inState(Made.CLEAN, 1, 1);
+        x.paper(0, 1, 2);
+        long mark = markOf(x, 0, 77L);
+        Due.yes("17: the mark", x.check(0, 77L, mark));
+        for (int bit = 0; bit < 64; bit++) {
+            Due.no("17: bit " + bit + " of the mark is off", x.check(0, 77L, mark ^ (1L << bit)));
+            Due.no("17: bit " + bit + " of the key is off", x.check(0, 77L ^ (1L << bit), mark));
         }
     }
 

@@ -4,20 +4,28 @@ public final class WipingTest {
         failInEachState();
         failRefusals();
         failedByNumbers();
+        allPlacesFail();
         everyPattern();
+        placesWhereThePatternWraps();
         passInEachState();
         passRefusals();
         passLimitEachTime();
         failedPlacesKeepTheirs();
         turnedBytes();
+        everyByteTurned();
         byteAtInEachState();
         readAnswers();
+        everyByteRead();
         readRefusals();
         readInEachState();
         readOfFailedPlaces();
         failBehindThePass();
         cleanWhenAllWereRead();
+        oneUnlikeKeepsItWiping();
+        onePlaceIsAll();
+        noPassesTheNextTime();
         unlikeCounts();
+        allUnlike();
         Due.end();
     }
 
@@ -67,6 +75,38 @@ public final class WipingTest {
         Due.is("7: wiping mends none", x.failed(0, 1), 20);
         x.lost(0);
         Due.is("7: of a lost one", x.failed(0, 2), 63);
+    }
+
+    private static void allPlacesFail() {
+        WipePapers x = Made.inState(Made.WIPING, 1, 64);
+        for (int i = 63; i >= 0; i--) {
+            Due.yes("6: place " + i, x.fail(0, i));
+            Due.no("6: place " + i + " again", x.fail(0, i));
+        }
+        for (int k = 0; k < 64; k++) {
+            Due.is("7: failed(0, " + k + ")", x.failed(0, k), k);
+        }
+        Due.none("7: failed(0, 64)", x.failed(0, 64));
+        Due.is("8: a pass over failed places only", x.pass(0, 33), 1);
+        for (int i = 0; i < 64; i++) {
+            Due.is("8: failed place " + i + " keeps its byte", x.byteAt(0, i), 0);
+            Due.is("10: should have the pattern's", x.read(0, i, 33), 1);
+        }
+        Due.is("10: clean, though all failed", x.state(0), Made.CLEAN);
+    }
+
+    /** Place 36 gets 7 * 36 + 3 = 255, place 37 what 262 leaves. */
+    private static void placesWhereThePatternWraps() {
+        WipePapers x = Made.inState(Made.WIPING, 1, 64);
+        x.pass(0, 256);
+        Due.is("8: place 0", x.byteAt(0, 0), 3);
+        Due.is("8: place 36", x.byteAt(0, 36), 255);
+        Due.is("8: place 37", x.byteAt(0, 37), 6);
+        Due.is("8: place 63", x.byteAt(0, 63), 188);
+        Due.is("10: place 36", x.read(0, 36, 255), 1);
+        Due.is("10: place 37", x.read(0, 37, 6), 1);
+        Due.none("10: 444 is no byte", x.read(0, 63, 444));
+        Due.is("10: place 63", x.read(0, 63, 188), 1);
     }
 
     private static void everyPattern() {
@@ -152,6 +192,32 @@ public final class WipingTest {
         x.pass(0, 0x5A);
         x.pass(0, 257);
         Due.is("8: 0x5A turned", x.byteAt(0, 0), 0xA5);
+    }
+
+    private static void everyByteTurned() {
+        for (int b = 0; b <= 255; b++) {
+            WipePapers x = Made.inState(Made.WIPING, 1, 2);
+            x.pass(0, b);
+            x.fail(0, 1);
+            x.pass(0, 257);
+            Due.is("8: " + b + " turned", x.byteAt(0, 0), 255 - b);
+            Due.is("8: " + b + " of a failed place", x.byteAt(0, 1), b);
+            x.pass(0, 257);
+            Due.is("8: " + b + " turned twice", x.byteAt(0, 0), b);
+            Due.is("10: turned twice", x.read(0, 0, b), 1);
+            Due.is("10: a failed place's, from its own byte", x.read(0, 1, 255 - b), 1);
+        }
+    }
+
+    private static void everyByteRead() {
+        for (int b = 0; b <= 255; b++) {
+            WipePapers x = Made.inState(Made.WIPING, 1, 3);
+            x.pass(0, b);
+            Due.is("10: " + b + " as it should be", x.read(0, 0, b), 1);
+            Due.is("10: unlike " + b, x.read(0, 1, (b + 1) % 256), 0);
+            Due.is("10: unlike " + b + " too", x.read(0, 2, (b + 255) % 256), 0);
+            Due.is("11: of " + b, x.unlike(0), 2);
+        }
     }
 
     private static void byteAtInEachState() {
@@ -269,6 +335,67 @@ public final class WipingTest {
         y.pass(0, 1);
         Made.wipe(y, 0, 2, 1);
         Due.is("10: clean by the next pass", y.state(0), Made.CLEAN);
+    }
+
+    private static void oneUnlikeKeepsItWiping() {
+        for (int unlike : new int[] {0, 31, 63}) {
+            WipePapers x = Made.inState(Made.WIPING, 1, 64);
+            x.pass(0, 200);
+            for (int i = 0; i < 64; i++) {
+                x.read(0, i, i == unlike ? 201 : 200);
+            }
+            Due.is("10: place " + unlike + " is unlike", x.state(0), Made.WIPING);
+            Due.none("10: and is not read again", x.read(0, unlike, 200));
+            Due.is("11: one of 64", x.unlike(0), 1);
+            Due.is("10: still wiping", x.state(0), Made.WIPING);
+            Due.is("8: another pass", x.pass(0, 200), 2);
+            for (int i = 0; i < 64; i++) {
+                x.read(0, i, 200);
+            }
+            Due.is("10: clean behind that", x.state(0), Made.CLEAN);
+        }
+    }
+
+    private static void onePlaceIsAll() {
+        WipePapers x = Made.inState(Made.WIPING, 1, 1);
+        x.pass(0, 0);
+        Due.is("10: not read yet", x.state(0), Made.WIPING);
+        Due.is("10: the only place, unlike", x.read(0, 0, 1), 0);
+        Due.is("10: still wiping", x.state(0), Made.WIPING);
+        x.pass(0, 0);
+        Due.is("10: the only place", x.read(0, 0, 0), 1);
+        Due.is("10: clean", x.state(0), Made.CLEAN);
+    }
+
+    private static void noPassesTheNextTime() {
+        WipePapers x = Made.inState(Made.CLEAN, 1, 2);
+        x.event(0, 4, 1);
+        x.event(0, 3, 1);
+        Due.is("4: the bytes stay", x.byteAt(0, 1), 9);
+        Due.none("10: no pass yet", x.read(0, 0, 9));
+        Due.is("11: no read yet", x.unlike(0), 0);
+        Due.is("8: the first again", x.pass(0, 257), 1);
+        Due.is("8: the bytes were kept for it", x.byteAt(0, 1), 246);
+        Due.is("10: place 0 again", x.read(0, 0, 246), 1);
+        Due.is("10: not all were read this time", x.state(0), Made.WIPING);
+        Due.is("10: place 1 again", x.read(0, 1, 246), 1);
+        Due.is("10: clean again", x.state(0), Made.CLEAN);
+        x.paper(0, 1, 2);
+        Due.is("15: one pass alone", x.at(0, 5), 1);
+        Due.is("15: the new one", x.at(0, 6), 257);
+        Due.none("15: no other", x.at(0, 7));
+    }
+
+    private static void allUnlike() {
+        WipePapers x = Made.inState(Made.WIPING, 1, 64);
+        x.pass(0, 0);
+        for (int i = 0; i < 64; i++) {
+            Due.is("10: place " + i, x.read(0, i, 255), 0);
+            Due.is("11: so far", x.unlike(0), i + 1);
+        }
+        Due.none("10: no place is left", x.read(0, 63, 255));
+        Due.is("11: all 64", x.unlike(0), 64);
+        Due.is("10: still wiping", x.state(0), Made.WIPING);
     }
 
     private static void unlikeCounts() {

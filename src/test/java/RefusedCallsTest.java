@@ -152,9 +152,10 @@ public final class RefusedCallsTest {
             }
             Twins.refuses("10: no pass", Made::mixed, x -> x.read(7, 0, b));
         }
-        for (int b : new int[] {0, 70, 71}) {
+        for (int b : new int[] {0, 25, 70, 71}) {
             Twins.refuses("10: read already, alike", Made::mixed, x -> x.read(2, 0, b));
             Twins.refuses("10: read already, unlike", Made::mixed, x -> x.read(2, 1, b));
+            Twins.refuses("10: read already, none unlike so far", Made::mixed, x -> x.read(8, 1, b));
         }
     }
 

@@ -7,7 +7,7 @@ import java.util.List;
  * full). Every way stays far enough under 512 calls to follow a making of eighty.
  */
 final class Story {
-    static final int WAYS = 11;
+    static final int WAYS = 12;
 
     private static final int CARRIERS = 10;
     private static final int PAPERS = 20;
@@ -36,6 +36,7 @@ final class Story {
             case 7 -> story.writePapers();
             case 8 -> story.failAll();
             case 9 -> story.goEveryEvent();
+            case 10 -> story.breakShredAndWrite();
             default -> story.shredAndLose();
         }
         return story.answers;
@@ -128,13 +129,17 @@ final class Story {
         askLists();
     }
 
+    private void writePaper(int c) {
+        int p = x.paper(c, 1, 2);
+        tell(p);
+        for (int i = 0; i <= MOST_FIELDS; i++) {
+            tell(x.at(p, i));
+        }
+    }
+
     private void writePapers() {
         for (int c = 0; c < CARRIERS; c++) {
-            int p = x.paper(c, 1, 2);
-            tell(p);
-            for (int i = 0; i <= MOST_FIELDS; i++) {
-                tell(x.at(p, i));
-            }
+            writePaper(c);
         }
         for (int i = 0; i <= PAPERS; i++) {
             tell(x.paper(0, 3, 4));
@@ -158,6 +163,15 @@ final class Story {
                 tell(x.last(c));
                 tell(x.pass(c, 6));
             }
+        }
+    }
+
+    /** So the passes of one that never becomes clean come to light too. */
+    private void breakShredAndWrite() {
+        for (int c = 0; c < CARRIERS; c++) {
+            tell(x.event(c, 2, SOMEBODY));
+            tell(x.shred(c, 1));
+            writePaper(c);
         }
     }
 

@@ -20,11 +20,12 @@ public final class FaceTest {
             && Modifier.isFinal(WipePapers.class.getModifiers()));
         methods();
         fields();
+        constant();
+        classesInside();
         Constructor<?>[] constructors = WipePapers.class.getDeclaredConstructors();
         Due.is("constructors", constructors.length, 1);
         Due.yes("public WipePapers()", Modifier.isPublic(constructors[0].getModifiers())
             && constructors[0].getParameterCount() == 0);
-        Due.is("NONE", WipePapers.NONE, -1);
         Due.end();
     }
 
@@ -58,7 +59,24 @@ public final class FaceTest {
         for (Field f : WipePapers.class.getDeclaredFields()) {
             boolean isNone = f.getName().equals("NONE");
             Due.is(f + " is private", Modifier.isPrivate(f.getModifiers()) ? 1 : 0, isNone ? 0 : 1);
-            Due.yes(f + " is final if static", !Modifier.isStatic(f.getModifiers()) || Modifier.isFinal(f.getModifiers()));
+            boolean isStatic = Modifier.isStatic(f.getModifiers());
+            Due.yes(f + " is final if static", !isStatic || Modifier.isFinal(f.getModifiers()));
+        }
+    }
+
+    private static void constant() {
+        Due.is("NONE", WipePapers.NONE, -1);
+        for (Field f : WipePapers.class.getFields()) {
+            Due.yes(f + " is the document's", f.toString().equals("public static final int WipePapers.NONE"));
+        }
+        Due.is("public constants", WipePapers.class.getFields().length, 1);
+    }
+
+    private static void classesInside() {
+        for (Class<?> inside : WipePapers.class.getDeclaredClasses()) {
+            int modifiers = inside.getModifiers();
+            Due.yes(inside + " is not shown", !Modifier.isPublic(modifiers) && !Modifier.isProtected(modifiers));
+            Due.yes(inside + " is static", Modifier.isStatic(modifiers));
         }
     }
 }

@@ -13,7 +13,9 @@ public final class ModelTest {
     private static final int PASS = 6;
     private static final int READ = 8;
     private static final int LOST = 19;
-    private static final int[] ODD_NUMBERS = {-1, 10, 20, 40, 41, 64, 65, 257, 258, Integer.MIN_VALUE, Integer.MAX_VALUE};
+    private static final int[] ODD_NUMBERS = {
+        -1, 10, 20, 40, 41, 64, 65, 257, 258, Integer.MIN_VALUE, Integer.MAX_VALUE
+    };
     private static final long[] ODD_SERIALS = {-1L, 1000000000000L, 1000000000001L, Long.MIN_VALUE, Long.MAX_VALUE};
 
     private static long dice = 5L;
